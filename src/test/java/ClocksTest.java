@@ -75,6 +75,9 @@ final class ClocksTest {
         expect.due("many(2, 0)", x.many(2, 0), 6);
         expect.due("many(2, 1)", x.many(2, 1), 6);
         expect.due("many(2, -1)", x.many(2, -1), 32);
+        HouseHours once = Expect.townOf("house 0 1 9;leap 0 1 20;");
+        expect.due("many(0, 0), once", once.many(0, 0), 1);
+        expect.due("many(0, -1), 0 and 20 .. 30", once.many(0, -1), 36);
         x.turn(1, 47);
         expect.due("many(1, 9) turned", x.many(1, 9), 9);
         expect.due("many(1, -1) turned", x.many(1, -1), 37);
@@ -193,16 +196,18 @@ final class ClocksTest {
     }
 
     private static void undoesTenAtMost() {
-        HouseHours x = Expect.townOf("house 0 1 1;house 10 1 1;");
-        for (int by = 1; by <= 12; by++) {
-            x.turn(by % 2, by);
+        HouseHours x = Expect.townOf("house 0 1 1;house 10 1 1;house 20 1 1;");
+        int[] turned = {0, 1, 0, 2, 2, 1, 0, 0, 1, 2, 1, 1};
+        for (int i = 0; i < 12; i++) {
+            x.turn(turned[i], i + 1);
         }
         expect.due("TURNS known", x.count(6), 10);
-        for (int by = 12; by >= 3; by--) {
-            expect.due("undo()", x.undo(), by % 2);
+        for (int i = 11; i >= 2; i--) {
+            expect.due("undo()", x.undo(), turned[i]);
         }
         expect.due("undo()", x.undo(), HouseHours.STATE);
-        expect.due("house(0, 4)", x.house(0, 4), 2);
-        expect.due("house(1, 4)", x.house(1, 4), 1);
+        expect.due("house(0, 4)", x.house(0, 4), 1);
+        expect.due("house(1, 4)", x.house(1, 4), 2);
+        expect.due("house(2, 4)", x.house(2, 4), 0);
     }
 }

@@ -14,6 +14,7 @@ final class DebtsTest {
         owes();
         due();
         rings();
+        ringsCeaseByTurns();
         expect.end();
     }
 
@@ -172,8 +173,24 @@ final class DebtsTest {
         ring("three round behind another", 1, 3, 0, 1, 0, 1, 5, 1, 2, 6, 2, 0, 7);
         ring("the same two", 0, 0, 1, 5, 0, 1, 6, 1, 2, 7);
         ring("four round, told backwards", 1, 3, 0, 9, 2, 3, 8, 1, 2, 7, 0, 1, 6);
+        ring("three round, the first told between", 1, 1, 2, 6, 0, 1, 5, 2, 0, 7);
         ring("six round", 1, 0, 1, 1, 1, 2, 2, 2, 3, 3, 3, 4, 4, 4, 5, 5, 5, 0, 6);
         ring("six round, one late", 0, 0, 1, 1, 1, 2, 2, 2, 3, 9, 3, 4, 4, 4, 5, 5, 5, 0, 6);
+    }
+
+    private static void ringsCeaseByTurns() {
+        HouseHours x = Expect.townOf("house 0 1 1;house 0 1 1;");
+        x.owes(0, 1, 5);
+        x.owes(1, 0, 6);
+        expect.due("due(-1)", x.due(-1), 1);
+        x.turn(0, 1);
+        expect.due("due(-1), at once", x.due(-1), 0);
+        x.turn(0, 1);
+        expect.due("due(-1), the other ahead", x.due(-1), 1);
+        x.undo();
+        expect.due("due(-1), at once", x.due(-1), 0);
+        x.town();
+        expect.due("due(-1), no HOUSES", x.due(-1), 0);
     }
 
     /** DEBTS in threes: debtor, creditor and the QUARTER at which it is due; -1: never. */

@@ -184,6 +184,9 @@ final class ErrandsTest {
         expect.due("treaty(2, 0, 0), by 45 or 2", x.treaty(2, 0, 0), 2);
         expect.due("treaty(2, 0, 1)", x.treaty(2, 0, 1), 48);
         expect.due("TURNS of 0", x.house(0, 4), 3);
+        x.turn(0, 8);
+        expect.due("treaty(1, 0, 0), by 47", x.treaty(1, 0, 0), 47);
+        expect.due("treaty(0, 1, 0), by 1", x.treaty(0, 1, 0), 1);
         expect.due("treaty(0, 0, 0)", x.treaty(0, 0, 0), BAD);
         expect.due("treaty(0, 1, -1)", x.treaty(0, 1, -1), BAD);
         expect.due("treaty(0, 1, 2)", x.treaty(0, 1, 2), BAD);

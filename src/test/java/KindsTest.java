@@ -101,7 +101,7 @@ final class KindsTest {
         x.undo();
         x.undo();
         for (int by = 20; by < 32; by++) {
-            x.turn(by % 2, by);
+            x.turn((by + 1) % 2, by);
         }
         expect.due("back(1)", x.back(1), 0);
         expect.due("TURNS known", x.count(6), 2);

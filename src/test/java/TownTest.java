@@ -79,6 +79,10 @@ final class TownTest {
         faults("hous 0 1 1;", 0);
         faults("houses 0 1 1;", 0);
         faults("houseleap 0 1 1;", 0);
+        faults("mouse 0 1 1;", 0);
+        faults("talk 1;", 0);
+        faults("walx 1;", 0);
+        faults("house 0 1 1;heap 0 1 1;", 12);
         faults("House 0 1 1;", 0);
         faults("wa lk 5;", 0);
         faults("walk", 4);
@@ -190,6 +194,8 @@ final class TownTest {
         expect.due("LEAPS", x.house(0, 3), 0);
         expect.due("shows(0, 10)", x.shows(0, 10), 11);
         expect.due("whose(0)", x.whose(0), 7);
+        expect.due("town() again", x.town(), 0);
+        expect.due("WALK", x.count(1), 1);
     }
 
     private static void tellsHouses() {
