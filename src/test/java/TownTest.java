@@ -11,6 +11,8 @@ final class TownTest {
         findsFaultsOfItems();
         keepsAllAtAFault();
         readsAnew();
+        readsNoneOfAnEarlierText();
+        readsFullTexts();
         tellsHouses();
         expect.end();
     }
@@ -194,8 +196,30 @@ final class TownTest {
         expect.due("LEAPS", x.house(0, 3), 0);
         expect.due("shows(0, 10)", x.shows(0, 10), 11);
         expect.due("whose(0)", x.whose(0), 7);
-        expect.due("town() again", x.town(), 0);
         expect.due("WALK", x.count(1), 1);
+    }
+
+    private static void readsNoneOfAnEarlierText() {
+        String[] earlier = {"walk 55;", "walkk", "walk 5  ;"};
+        String[] later = {"walk 5", "walk", "walk 5"};
+        int[] places = {6, 4, 6};
+        for (int i = 0; i < earlier.length; i++) {
+            HouseHours x = new HouseHours();
+            Expect.typeAll(x, earlier[i]);
+            x.clear();
+            Expect.typeAll(x, later[i]);
+            expect.due("town() of " + later[i], x.town(), -10 - places[i]);
+        }
+    }
+
+    private static void readsFullTexts() {
+        faults("a".repeat(300), 0);
+        faults("1".repeat(300), 0);
+        faults(";".repeat(300), 0);
+        faults(" ".repeat(296) + "walk", 300);
+        faults(" ".repeat(294) + "walk 9", 300);
+        reads(" ".repeat(293) + "walk 9;", 1, 0, 9);
+        reads("walk 9;" + " ".repeat(293), 1, 0, 9);
     }
 
     private static void tellsHouses() {
